@@ -42,7 +42,7 @@ public final class RelayParcels {
     private final World world = present.world;
     private final History history = new History();
     private final Text text = new Text();
-    private final Ways ways = new Ways();
+    private final Ways ways = new Ways(world);
 
     public RelayParcels() {
     }
@@ -266,7 +266,7 @@ public final class RelayParcels {
         if (world.parcels[parcel].state != UNDER_WAY) {
             return ILLEGAL_STATE;
         }
-        ways.search(world, parcel, false);
+        ways.search(parcel, false);
         if (!ways.found) {
             return NONE;
         }
@@ -283,7 +283,7 @@ public final class RelayParcels {
         if (world.parcels[parcel].state != UNDER_WAY) {
             return ILLEGAL_STATE;
         }
-        ways.search(world, parcel, true);
+        ways.search(parcel, true);
         if (!ways.found) {
             return NONE;
         }
@@ -475,7 +475,7 @@ public final class RelayParcels {
         int lookUp(int parcel, int hour) {
             for (int i = size - 1; i >= 0; i--) {
                 int entry = entries[i];
-                if (entry % OF_HOUR / OF_PARCEL == parcel && entry / OF_HOUR <= hour) {
+                if ((entry % OF_HOUR) / OF_PARCEL == parcel && entry / OF_HOUR <= hour) {
                     return entry % OF_PARCEL;
                 }
             }
@@ -1124,7 +1124,7 @@ public final class RelayParcels {
         /** Of the trips with which a way with the least begins, however it is in the second. */
         int smallestFirst;
 
-        private World world;
+        private final World world;
         private int destination;
         private boolean byFees;
         private final boolean[] looked = new boolean[TRIPS];
@@ -1132,8 +1132,11 @@ public final class RelayParcels {
         private final int[] leastBy = new int[TRIPS];
         private final int[] thenLeastBy = new int[TRIPS];
 
-        void search(World searched, int number, boolean cheapest) {
-            world = searched;
+        Ways(World world) {
+            this.world = world;
+        }
+
+        void search(int number, boolean cheapest) {
             byFees = cheapest;
             Parcel parcel = world.parcels[number];
             destination = parcel.destination;
@@ -1197,7 +1200,8 @@ public final class RelayParcels {
         private int bestFrom(int town, int hour) {
             int best = NONE;
             for (int i = 0; i < world.tripCount; i++) {
-                if (leads[i] && world.trips[i].canBeCaught(town, hour) && (best == NONE || isBetter(i, best))) {
+                boolean leadsFromHere = leads[i] && world.trips[i].canBeCaught(town, hour);
+                if (leadsFromHere && (best == NONE || isBetter(i, best))) {
                     best = i;
                 }
             }

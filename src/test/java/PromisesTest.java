@@ -36,6 +36,8 @@ public final class PromisesTest {
         claimLocker();
         take();
         restore();
+        restoreAllOfIt();
+        rowsUsedAgain();
         undo();
         undoSlots();
         append();
@@ -55,6 +57,7 @@ public final class PromisesTest {
         earliestOnTheRoad();
         cheapest();
         cheapestTies();
+        waysOfSeveralParcels();
         waysAtTheEnd();
         wouldClaim();
         CHECKS.end();
@@ -566,6 +569,12 @@ public final class PromisesTest {
         x.pass(3);
         due("in another town", x.putIn(6, 3), 1);
         due("holder", x.parcel(3, 6), 15);
+        x.post(5, 1, 0, 10, 0);
+        x.post(5, 1, 0, 10, 0);
+        x.post(5, 1, 0, 10, 0);
+        due("second", x.putIn(5, 4), 2);
+        due("third", x.putIn(5, 5), 3);
+        due("full there, too", x.putIn(5, 6), FULL);
     }
 
     private static void fetch() {
@@ -724,6 +733,26 @@ public final class PromisesTest {
         x.pass(10);
         due("no more than the worth", x.claim(3), 8);
         due("the fund", x.count(9), 32);
+        covers();
+    }
+
+    /** Ten parcels bring the fund 100 coins at most: the covers of the tiers 2 and 3 are never reached. */
+    private static void covers() {
+        RelayParcels x = fresh();
+        for (int i = 0; i < 8; i++) {
+            x.post(i, (i + 1) % 8, 5, 999, 3);
+        }
+        x.post(2, 7, 5, 999, 1);
+        x.post(3, 7, 5, 30, 1);
+        due("the fund", x.count(9), 84);
+        x.putIn(2, 8);
+        x.putIn(3, 9);
+        due("the cover of tier 1", x.wouldClaim(8, 0), 50);
+        due("a worth below it", x.wouldClaim(9, 0), 30);
+        x.pass(10);
+        due("the cover of tier 1", x.claim(8), 50);
+        due("a worth below it", x.claim(9), 30);
+        due("the fund", x.count(9), 4);
     }
 
     // ---- promises 11 to 13
@@ -790,6 +819,112 @@ public final class PromisesTest {
         due("as it was", x.parcel(0, 6), 0);
         due("undone", x.undo(), 4);
         due("as before", x.parcel(0, 6), 6);
+    }
+
+    /** Everything that can be told of what was in a snapshot, while the world goes on otherwise. */
+    private static void restoreAllOfIt() {
+        RelayParcels x = fresh();
+        x.offer(6, 0, 3, 2, 8, 30);
+        x.offer(1, 1, 4, 1, 30, 7);
+        x.post(0, 3, 3, 60, 1);
+        x.post(2, 4, 5, 70, 2);
+        x.gave(0, 0, 6);
+        x.took(6, 0, 0);
+        x.pass(11);
+        x.claim(0);
+        x.took(6, 1, 2);
+        String before = everything(x);
+        x.take(0);
+        for (int i = 0; i < 6; i++) {
+            x.undo();
+        }
+        CHECKS.holds("it was otherwise", !before.equals(everything(x)));
+        x.restore(0);
+        due("the slot was undone, too", x.count(13), 0);
+        x.pass(11);
+        x.claim(0);
+        x.took(6, 1, 2);
+        x.take(1);
+        String kept = everything(x);
+        x.offer(3, 3, 0, 1, 1, 0);
+        x.post(4, 5, 0, 1, 0);
+        passMany(x, 60);
+        x.putIn(2, 1);
+        CHECKS.holds("it is otherwise", !kept.equals(everything(x)));
+        x.restore(1);
+        CHECKS.holds("all as it was", kept.equals(everything(x)));
+    }
+
+    /** What the world tells, but for the history and the text. */
+    private static String everything(RelayParcels x) {
+        StringBuilder told = new StringBuilder();
+        for (int what = 0; what <= 13; what++) {
+            told.append(x.count(what)).append(' ');
+        }
+        for (int number = 0; number < 16; number++) {
+            for (int what = 0; what <= 10; what++) {
+                told.append(x.trip(number, what)).append(' ').append(x.person(number, what)).append(' ');
+                told.append(x.parcel(number, what)).append(' ');
+            }
+            for (int hour = 0; hour <= x.count(0); hour++) {
+                told.append(x.holderAt(number, hour)).append(' ');
+            }
+        }
+        return told.toString();
+    }
+
+    /** A number that is given anew begins anew, whatever it was before an undo or a restore. */
+    private static void rowsUsedAgain() {
+        RelayParcels x = fresh();
+        x.take(0);
+        x.offer(0, 0, 1, 1, 1, 0);
+        x.post(0, 3, 0, 60, 1);
+        x.pass(2);
+        x.restore(0);
+        due("the number anew", x.offer(1, 1, 2, 3, 1, 0), 0);
+        due("offered", x.trip(0, 6), 0);
+        x.post(0, 6, 0, 60, 1);
+        x.gave(0, 0, 6);
+        x.took(6, 0, 0);
+        due("delivered", x.parcel(0, 5), 1);
+        x.restore(0);
+        due("the number anew", x.post(4, 0, 1, 5, 0), 0);
+        due("under way", x.parcel(0, 5), 0);
+        due("its holder", x.holderAt(0, 0), 4);
+        fromASlotToAnother();
+    }
+
+    private static void fromASlotToAnother() {
+        RelayParcels x = fresh();
+        x.take(1);
+        x.offer(2, 2, 5, 4, 6, 8);
+        x.post(2, 6, 1, 60, 3);
+        x.putIn(2, 0);
+        x.pass(3);
+        x.fetch(2, 0);
+        x.take(0);
+        String first = everything(x);
+        x.restore(1);
+        x.offer(3, 3, 1, 5, 9, 5);
+        x.post(3, 4, 3, 50, 2);
+        x.offer(4, 4, 3, 1, 1, 5);
+        x.pass(2);
+        due("4 came to town 3", x.person(4, 2), 3);
+        x.post(3, 5, 0, 50, 2);
+        x.putIn(3, 1);
+        due("4 carries it", x.fetch(4, 1), 0);
+        x.pass(12);
+        due("from the fund and the deposit", x.claim(1), 50);
+        due("a deposit", x.person(4, 1), 0);
+        x.take(1);
+        String second = everything(x);
+        CHECKS.holds("another world", !first.equals(second));
+        x.restore(0);
+        CHECKS.holds("the first restored", first.equals(everything(x)));
+        x.restore(1);
+        CHECKS.holds("the second restored", second.equals(everything(x)));
+        x.undo();
+        CHECKS.holds("the first by undo", first.equals(everything(x)));
     }
 
     private static void undo() {
@@ -1320,6 +1455,28 @@ public final class PromisesTest {
         x.offer(5, 0, 5, 2, 2, 8);
         cheapestIs(x, 7, 4);
         earliestIs(x, 4, 1, 0);
+    }
+
+    private static void waysOfSeveralParcels() {
+        RelayParcels x = fresh();
+        x.post(0, 7, 5, 10, 0);
+        x.post(0, 7, 2, 10, 0);
+        x.offer(1, 0, 5, 1, 2, 4);
+        x.offer(2, 0, 2, 3, 4, 5);
+        x.offer(3, 5, 2, 4, 1, 6);
+        earliestIs(x, 3, 1, 0);
+        due("the other's hour", x.earliest(1, 0), 5);
+        due("the other's trips", x.earliest(1, 1), 2);
+        due("the other's first", x.earliest(1, 2), 0);
+        due("the other's sum", x.cheapest(1, 0), 5);
+        due("the other's hour", x.cheapest(1, 1), 7);
+        x.takeBack(2);
+        due("the other's hour", x.earliest(1, 0), 7);
+        due("the other's first", x.earliest(1, 2), 1);
+        earliestIs(x, 3, 1, 0);
+        cheapestIs(x, 4, 3);
+        x.takeBack(1);
+        due("the other has none", x.cheapest(1, 0), NONE);
     }
 
     private static void waysAtTheEnd() {
