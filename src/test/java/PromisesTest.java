@@ -36,7 +36,6 @@ public final class PromisesTest {
         claimLocker();
         take();
         restore();
-        restoreAllOfIt();
         rowsUsedAgain();
         undo();
         undoSlots();
@@ -821,58 +820,6 @@ public final class PromisesTest {
         due("as before", x.parcel(0, 6), 6);
     }
 
-    /** Everything that can be told of what was in a snapshot, while the world goes on otherwise. */
-    private static void restoreAllOfIt() {
-        RelayParcels x = fresh();
-        x.offer(6, 0, 3, 2, 8, 30);
-        x.offer(1, 1, 4, 1, 30, 7);
-        x.post(0, 3, 3, 60, 1);
-        x.post(2, 4, 5, 70, 2);
-        x.gave(0, 0, 6);
-        x.took(6, 0, 0);
-        x.pass(11);
-        x.claim(0);
-        x.took(6, 1, 2);
-        String before = everything(x);
-        x.take(0);
-        for (int i = 0; i < 6; i++) {
-            x.undo();
-        }
-        CHECKS.holds("it was otherwise", !before.equals(everything(x)));
-        x.restore(0);
-        due("the slot was undone, too", x.count(13), 0);
-        x.pass(11);
-        x.claim(0);
-        x.took(6, 1, 2);
-        x.take(1);
-        String kept = everything(x);
-        x.offer(3, 3, 0, 1, 1, 0);
-        x.post(4, 5, 0, 1, 0);
-        passMany(x, 60);
-        x.putIn(2, 1);
-        CHECKS.holds("it is otherwise", !kept.equals(everything(x)));
-        x.restore(1);
-        CHECKS.holds("all as it was", kept.equals(everything(x)));
-    }
-
-    /** What the world tells, but for the history and the text. */
-    private static String everything(RelayParcels x) {
-        StringBuilder told = new StringBuilder();
-        for (int what = 0; what <= 13; what++) {
-            told.append(x.count(what)).append(' ');
-        }
-        for (int number = 0; number < 16; number++) {
-            for (int what = 0; what <= 10; what++) {
-                told.append(x.trip(number, what)).append(' ').append(x.person(number, what)).append(' ');
-                told.append(x.parcel(number, what)).append(' ');
-            }
-            for (int hour = 0; hour <= x.count(0); hour++) {
-                told.append(x.holderAt(number, hour)).append(' ');
-            }
-        }
-        return told.toString();
-    }
-
     /** A number that is given anew begins anew, whatever it was before an undo or a restore. */
     private static void rowsUsedAgain() {
         RelayParcels x = fresh();
@@ -891,40 +838,6 @@ public final class PromisesTest {
         due("the number anew", x.post(4, 0, 1, 5, 0), 0);
         due("under way", x.parcel(0, 5), 0);
         due("its holder", x.holderAt(0, 0), 4);
-        fromASlotToAnother();
-    }
-
-    private static void fromASlotToAnother() {
-        RelayParcels x = fresh();
-        x.take(1);
-        x.offer(2, 2, 5, 4, 6, 8);
-        x.post(2, 6, 1, 60, 3);
-        x.putIn(2, 0);
-        x.pass(3);
-        x.fetch(2, 0);
-        x.take(0);
-        String first = everything(x);
-        x.restore(1);
-        x.offer(3, 3, 1, 5, 9, 5);
-        x.post(3, 4, 3, 50, 2);
-        x.offer(4, 4, 3, 1, 1, 5);
-        x.pass(2);
-        due("4 came to town 3", x.person(4, 2), 3);
-        x.post(3, 5, 0, 50, 2);
-        x.putIn(3, 1);
-        due("4 carries it", x.fetch(4, 1), 0);
-        x.pass(12);
-        due("from the fund and the deposit", x.claim(1), 50);
-        due("a deposit", x.person(4, 1), 0);
-        x.take(1);
-        String second = everything(x);
-        CHECKS.holds("another world", !first.equals(second));
-        x.restore(0);
-        CHECKS.holds("the first restored", first.equals(everything(x)));
-        x.restore(1);
-        CHECKS.holds("the second restored", second.equals(everything(x)));
-        x.undo();
-        CHECKS.holds("the first by undo", first.equals(everything(x)));
     }
 
     private static void undo() {

@@ -1,22 +1,41 @@
 import java.lang.reflect.Method;
+import java.util.ArrayList;
 import java.util.Arrays;
+import java.util.List;
 
-/** Long runs of calls, made from fixed seeds, whose every answer the program and the model share. */
+/**
+ * Runs of calls, made from fixed seeds, whose every answer the program and the model share. No object
+ * is used for more calls than it is promised for: a short run is made anew for each part of a look at all.
+ */
 public final class RandomRunsTest {
-    private static final int RUNS = 2500;
-    private static final int CALLS = 512;
+    private static final int RUNS = 8000;
+    private static final int MOST_CALLS = 512;
+    private static final int SHORT = 200;
+    private static final int PARTS = 6;
     private static final String SIGNS = "gtpfh;;0123456789x";
+    /** The ends of the ranges that the document names, and what is next to them. */
+    private static final int[] EDGES = {Integer.MIN_VALUE, -9, -1, 0, 1, 2, 3, 4, 5, 6, 7, 8, 9, 10, 11, 14, 15, 16, 23, 24, 25,
+        49, 50, 51, 98, 99, 100, 254, 255, 256, 499, 500, 501, 998, 999, 1000, Integer.MAX_VALUE};
+    private static final int LATE = 20;
 
     private static final Method[] OF_PROGRAM = methodsOf(RelayParcels.class);
     private static final Method[] OF_MODEL = methodsOf(Model.class);
 
-    private final RelayParcels program = new RelayParcels();
-    private final Model model = new Model();
-    private final StringBuilder calls = new StringBuilder();
+    private record Call(int method, Object[] arguments) {
+        @Override
+        public String toString() {
+            return OF_PROGRAM[method].getName() + Arrays.toString(arguments);
+        }
+    }
+
+    private RelayParcels program = new RelayParcels();
+    private Model model = new Model();
+    private final List<Call> calls = new ArrayList<>();
     /** The higher, the more often an argument is any number at all. */
     private final int wildness;
     private final int longestPass;
     private final int longestLead;
+    private final int length;
     private long seed;
 
     private RandomRunsTest(int run) {
@@ -24,6 +43,7 @@ public final class RandomRunsTest {
         wildness = next(3) == 0 ? 12 : 200;
         longestPass = 1 + next(24);
         longestLead = 2 + next(48);
+        length = next(4) == 0 ? MOST_CALLS : 20 + next(SHORT - 20);
     }
 
     public static void main(String[] args) throws ReflectiveOperationException {
@@ -49,21 +69,22 @@ public final class RandomRunsTest {
     }
 
     private String run() throws ReflectiveOperationException {
-        for (int i = 0; i < CALLS; i++) {
+        boolean late = next(6) == 0;
+        for (int i = 0; late && i < LATE; i++) {
+            compare("pass", 24);
+        }
+        while (calls.size() < length) {
             String wrong = step();
-            if (wrong.isEmpty() && i % 16 == 15) {
-                wrong = lookAtAll();
-            }
             if (!wrong.isEmpty()) {
                 return calls + wrong;
             }
         }
-        return "";
+        return length <= SHORT ? lookAtAll() : "";
     }
 
     private String step() throws ReflectiveOperationException {
         int kind = next(100);
-        int parcel = next(Math.max(1, program.count(5)));
+        int parcel = next(Math.max(1, model.count(5)));
         if (kind < 16) {
             return offerOne();
         }
@@ -83,7 +104,7 @@ public final class RandomRunsTest {
             return call("putIn", holderOr(parcel), parcel);
         }
         if (kind < 74) {
-            return call("fetch", companion(program.parcel(parcel, 10)), parcel);
+            return call("fetch", companion(model.parcel(parcel, 10)), parcel);
         }
         if (kind < 79) {
             return call("claim", parcel);
@@ -99,7 +120,7 @@ public final class RandomRunsTest {
 
     private String offerOne() throws ReflectiveOperationException {
         int person = next(8);
-        int from = program.person(person, 2);
+        int from = model.person(person, 2);
         if (from < 0 || next(3) == 0) {
             from = next(6);
         }
@@ -108,7 +129,7 @@ public final class RandomRunsTest {
     }
 
     private int holderOr(int parcel) {
-        int holder = program.parcel(parcel, 6);
+        int holder = model.parcel(parcel, 6);
         return holder < 0 || holder > 7 || next(12) == 0 ? next(8) : holder;
     }
 
@@ -117,7 +138,7 @@ public final class RandomRunsTest {
         int begin = next(8);
         for (int i = 0; i < 8; i++) {
             int person = (begin + i) % 8;
-            if (program.person(person, 2) == town) {
+            if (model.person(person, 2) == town) {
                 return person;
             }
         }
@@ -126,8 +147,8 @@ public final class RandomRunsTest {
 
     private String handOver(int parcel) throws ReflectiveOperationException {
         int giver = holderOr(parcel);
-        int taker = companion(program.parcel(parcel, 10));
-        int named = program.parcel(parcel, next(2) == 0 ? 8 : 9);
+        int taker = companion(model.parcel(parcel, 10));
+        int named = model.parcel(parcel, next(2) == 0 ? 8 : 9);
         if (named >= 0 && next(4) > 0) {
             taker = named;
         }
@@ -148,7 +169,7 @@ public final class RandomRunsTest {
         }
         StringBuilder text = new StringBuilder();
         for (int left = next(5); left > 0; left--) {
-            int parcel = next(Math.max(1, program.count(5)));
+            int parcel = next(Math.max(1, model.count(5)));
             text.append(text.length() == 0 ? "" : ";").append(order(parcel));
         }
         if (next(5) == 0) {
@@ -165,7 +186,7 @@ public final class RandomRunsTest {
 
     private String order(int parcel) {
         int holder = holderOr(parcel);
-        int other = companion(program.parcel(parcel, 10));
+        int other = companion(model.parcel(parcel, 10));
         return switch (next(5)) {
             case 0 -> "g" + holder + parcel + other;
             case 1 -> "t" + other + parcel + holder;
@@ -180,7 +201,7 @@ public final class RandomRunsTest {
             case 0 -> call("earliest", parcel, next(3));
             case 1 -> call("cheapest", parcel, next(2));
             case 2 -> call("wouldClaim", parcel, next(3));
-            case 3 -> call("holderAt", parcel, next(program.count(0) + 1));
+            case 3 -> call("holderAt", parcel, next(model.count(0) + 1));
             case 4 -> call("count", next(16));
             default -> call("parcel", parcel, next(11));
         };
@@ -190,55 +211,102 @@ public final class RandomRunsTest {
         Object[] arguments = given.clone();
         for (int i = 0; i < arguments.length; i++) {
             if (next(wildness) == 0) {
-                arguments[i] = next(5) == 0 ? (Integer) (next(2) == 0 ? Integer.MIN_VALUE : Integer.MAX_VALUE) : (Integer) (next(30) - 5);
+                arguments[i] = EDGES[next(EDGES.length)];
             }
         }
         return compare(name, arguments);
     }
 
     private String compare(String name, Object... arguments) throws ReflectiveOperationException {
+        if (calls.size() >= MOST_CALLS) {
+            return "";
+        }
         for (int i = 0; i < OF_PROGRAM.length; i++) {
             if (OF_PROGRAM[i].getName().equals(name)) {
-                Object got = OF_PROGRAM[i].invoke(program, arguments);
-                Object due = OF_MODEL[i].invoke(model, arguments);
-                calls.append(name).append(Arrays.toString(arguments)).append(" ");
-                return got.equals(due) ? "" : "answered " + got + ", the model " + due;
+                Call call = new Call(i, arguments);
+                calls.add(call);
+                return make(call);
             }
         }
         return "no method " + name;
     }
 
+    private String make(Call call) throws ReflectiveOperationException {
+        Object got = OF_PROGRAM[call.method].invoke(program, call.arguments);
+        Object due = OF_MODEL[call.method].invoke(model, call.arguments);
+        return got.equals(due) ? "" : " answered " + got + ", the model " + due;
+    }
+
     private String lookAtAll() throws ReflectiveOperationException {
-        int length = calls.length();
-        StringBuilder wrong = new StringBuilder();
-        lookAt(wrong, "count", 17);
-        lookAt(wrong, "inLocker", 7);
-        for (int i = -1; i <= 16; i++) {
-            lookAt(wrong, "trip", i, 8);
-            lookAt(wrong, "person", i, 7);
-            lookAt(wrong, "parcel", i, 12);
-            lookAt(wrong, "earliest", i, 4);
-            lookAt(wrong, "cheapest", i, 3);
-            lookAt(wrong, "wouldClaim", i, 4);
-            if (next(8) == 0) {
-                lookAt(wrong, "holderAt", i, program.count(0) + 2);
+        List<Call> made = new ArrayList<>(calls);
+        for (int part = 0; part < PARTS; part++) {
+            program = new RelayParcels();
+            model = new Model();
+            for (Call call : made) {
+                make(call);
+            }
+            calls.clear();
+            calls.addAll(made);
+            StringBuilder wrong = new StringBuilder();
+            lookAt(part, wrong);
+            if (!wrong.isEmpty()) {
+                return calls + wrong.toString();
             }
         }
-        if (wrong.isEmpty()) {
-            calls.setLength(length);
+        return "";
+    }
+
+    private void lookAt(int part, StringBuilder wrong) throws ReflectiveOperationException {
+        switch (part) {
+            case 0 -> {
+                lookAt(wrong, "count", 16);
+                lookAt(wrong, "inLocker", 6);
+                lookAt(wrong, "person", 8, 6);
+            }
+            case 1 -> lookAt(wrong, "trip", 16, 7);
+            case 2 -> lookAt(wrong, "parcel", 10, 11);
+            case 3 -> {
+                lookAt(wrong, "earliest", 10, 3);
+                lookAt(wrong, "cheapest", 10, 2);
+                lookAt(wrong, "wouldClaim", 10, 3);
+            }
+            case 4 -> lookAtHolders(wrong);
+            default -> {
+                lookAtHistory(wrong);
+                wrong.append(wrong.isEmpty() ? compare("carryOut") : "");
+            }
         }
-        return wrong.toString();
     }
 
     private void lookAt(StringBuilder wrong, String name, int bound) throws ReflectiveOperationException {
-        for (int what = -1; what < bound && wrong.isEmpty(); what++) {
+        for (int what = -1; what <= bound && wrong.isEmpty(); what++) {
             wrong.append(compare(name, what));
         }
     }
 
-    private void lookAt(StringBuilder wrong, String name, int number, int bound) throws ReflectiveOperationException {
-        for (int what = -1; what < bound && wrong.isEmpty(); what++) {
-            wrong.append(compare(name, number, what));
+    private void lookAt(StringBuilder wrong, String name, int numbers, int bound) throws ReflectiveOperationException {
+        for (int number = -1; number <= numbers; number++) {
+            for (int what = -1; what <= bound && wrong.isEmpty(); what++) {
+                wrong.append(compare(name, number, what));
+            }
+        }
+    }
+
+    private void lookAtHolders(StringBuilder wrong) throws ReflectiveOperationException {
+        for (int parcel = 0; parcel < model.count(5); parcel++) {
+            for (int i = 0; i < 25 && wrong.isEmpty(); i++) {
+                wrong.append(compare("holderAt", parcel, next(model.count(0) + 3) - 1));
+            }
+        }
+    }
+
+    private void lookAtHistory(StringBuilder wrong) throws ReflectiveOperationException {
+        for (int i = 0; i <= 5 && wrong.isEmpty(); i++) {
+            wrong.append(compare("undo"));
+            lookAt(wrong, "count", 16);
+            for (int parcel = 0; parcel < model.count(5) && wrong.isEmpty(); parcel++) {
+                wrong.append(compare("parcel", parcel, 6)).append(compare("parcel", parcel, 8));
+            }
         }
     }
 }
