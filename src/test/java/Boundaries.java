@@ -92,7 +92,9 @@ abstract class Boundaries {
                 allowed(run, call.replace("#", String.valueOf(number)));
             }
         }
-        for (int wrong : new int[] {low - 1, high + 1, Integer.MIN_VALUE, Integer.MIN_VALUE + 1, Integer.MAX_VALUE - 1, Integer.MAX_VALUE}) {
+        int lowest = Integer.MIN_VALUE;
+        int highest = Integer.MAX_VALUE;
+        for (int wrong : new int[] {low - 1, high + 1, lowest, lowest + 1, highest - 1, highest}) {
             refused(run, call.replace("#", String.valueOf(wrong)), INVALID);
         }
     }

@@ -246,17 +246,17 @@ final class KeepBoundaries extends Boundaries {
 
     private void refusedCalls() {
         sentence("A call that returns an error code changes nothing", () -> {
-            for (String wrong : new String[] {"offer -1 0 1 1 1 0", "offer 0 0 0 1 1 0", "offer 0 0 1 1 1 100", "takeBack 4", "takeBack -1",
-                "post 3 3 0 1 1", "post 3 0 0 1000 1", "pass 0", "pass 25", "gave 6 4 0", "gave 6 0 6", "took 0 4 6", "took 6 0 6",
+            for (String wrong : new String[] {"offer -1 0 1 1 1 0", "offer 0 0 0 1 1 0", "offer 0 0 1 1 1 100", "takeBack 4",
+                "takeBack -1", "post 3 3 0 1 1", "post 3 0 0 1000 1", "pass 0", "pass 25", "gave 6 4 0", "gave 6 0 6", "took 0 4 6", "took 6 0 6",
                 "putIn 8 0", "putIn 6 4", "fetch 8 0", "fetch 6 4", "claim 4", "claim -1", "take 2", "take -1", "restore 2", "restore -1",
                 "append 0", "append 256", "count 16", "count -1", "trip 4 0", "trip 0 7", "person 8 0", "person 0 6", "parcel 4 0",
-                "parcel 0 11", "holderAt 4 0", "holderAt 0 13", "holderAt 0 -1", "inLocker 6", "inLocker -1", "earliest 0 3", "earliest 4 0",
-                "cheapest 0 2", "cheapest 4 0", "wouldClaim 0 3", "wouldClaim 4 0"}) {
+                "parcel 0 11", "holderAt 4 0", "holderAt 0 13", "holderAt 0 -1", "inLocker 6", "inLocker -1", "earliest 0 3",
+                "earliest 4 0", "cheapest 0 2", "cheapest 4 0", "wouldClaim 0 3", "wouldClaim 4 0"}) {
                 refused(RICH, wrong, INVALID);
             }
             for (String illegal : new String[] {"offer 6 0 1 27 5 0", "offer 2 2 5 30 9 0", "takeBack 1", "takeBack 2", "takeBack 3",
-                "post 2 3 3 1 0", "gave 0 0 6", "gave 6 0 1", "gave 6 1 0", "took 0 1 6", "took 1 0 6", "took 0 0 3", "putIn 0 0", "putIn 6 1",
-                "fetch 5 2", "fetch 6 3", "claim 1", "claim 2", "claim 3", "earliest 1 0", "earliest 2 2", "cheapest 1 0",
+                "post 2 3 3 1 0", "gave 0 0 6", "gave 6 0 1", "gave 6 1 0", "took 0 1 6", "took 1 0 6", "took 0 0 3", "putIn 0 0",
+                "putIn 6 1", "fetch 5 2", "fetch 6 3", "claim 1", "claim 2", "claim 3", "earliest 1 0", "earliest 2 2", "cheapest 1 0",
                 "wouldClaim 1 0", "wouldClaim 3 0"}) {
                 refused(RICH, illegal, ILLEGAL);
             }
@@ -357,6 +357,10 @@ final class KeepBoundaries extends Boundaries {
             is(two.then("cheapest 0 1"), "earliest 0 1", 1);
             is(two.then("cheapest 1 0"), "earliest 1 0", 5);
             is(two.then("earliest 1 0"), "cheapest 1 1", 7);
+            Run others = run("post 0 7 5 10 0, post 0 7 2 10 0, offer 1 0 5 1 2 4");
+            is(others.then("earliest 0 0"), "earliest 1 0", NONE);
+            is(others.then("offer 2 0 4 1 1 0, offer 3 4 5 2 1 0, earliest 0 0"), "earliest 1 0", NONE);
+            is(others.then("offer 2 0 4 1 1 0, offer 3 4 5 2 1 0, cheapest 0 0"), "cheapest 1 0", NONE);
             Run handed = run("post 0 3 3 61 1, gave 0 0 6, took 6 0 0, gave 6 0 0");
             same(handed.then("wouldClaim 0 0, wouldClaim 0 1, wouldClaim 0 2"), handed);
         });

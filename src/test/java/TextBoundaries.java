@@ -255,6 +255,10 @@ final class TextBoundaries extends Boundaries {
         is(run.then("text h;" + orders + ";h, carryOut"), "count 0", 1);
         is(run.then("text h;h;" + orders), "carryOut", carriedOut + 2);
         is(run.then("text h;h;" + orders + ", carryOut"), "count 0", 2);
+        if (carriedOut == 0) {
+            sameWorld(run.then("text " + orders + ";h;h, carryOut"), run);
+            sameWorld(run.then("text h;" + orders + ";h, carryOut"), run.then("pass 1"));
+        }
     }
 
     private void oneAction() {

@@ -101,7 +101,8 @@ final class TripBoundaries extends Boundaries {
             Run overlapping = run("offer 0 0 1 1 50 0");
             Run full = PlaceBoundaries.trips(16);
             for (String wrong : new String[] {"-1 0 1 1 1 0", "8 0 1 1 1 0", "0 -1 1 1 1 0", "0 6 1 1 1 0", "0 0 -1 1 1 0",
-                "0 0 6 1 1 0", "0 0 0 1 1 0", "0 0 1 0 1 0", "0 0 1 51 1 0", "0 0 1 1 0 0", "0 0 1 1 51 0", "0 0 1 1 1 -1", "0 0 1 1 1 100"}) {
+                "0 0 6 1 1 0", "0 0 0 1 1 0", "0 0 1 0 1 0", "0 0 1 51 1 0", "0 0 1 1 0 0", "0 0 1 1 51 0",
+                "0 0 1 1 1 -1", "0 0 1 1 1 100"}) {
                 refused(run(""), "offer " + wrong, INVALID);
                 refused(overlapping, "offer " + wrong, INVALID);
                 refused(full, "offer " + wrong, INVALID);
