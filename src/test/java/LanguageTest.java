@@ -18,6 +18,10 @@ import java.util.regex.Pattern;
 /** The face of the class, the room that it takes, and what a look at the source can hold of LANGUAGE.md. */
 public final class LanguageTest {
     private static final Path SOURCE = Path.of("src/main/java/RelayParcels.java");
+    private static final Path DOCUMENT = Path.of("../shared/DOC.md");
+    private static final Pattern FACE_TOLD = Pattern.compile("(?s)```java\n(.*?)```");
+    private static final Pattern HEADING_TOLD =
+        Pattern.compile("Ahead of the calls (.*) the interface says: (----.*)\\.");
     private static final Checks CHECKS = new Checks();
 
     private static final String[] FACE = {
@@ -28,6 +32,8 @@ public final class LanguageTest {
 
     public static void main(String[] args) throws Exception {
         face();
+        faceAsTold();
+        headingsAsTold();
         nestedClasses();
         words();
         lengths();
@@ -60,6 +66,43 @@ public final class LanguageTest {
         CHECKS.due("rule 1: its parameters", constructors[0].getParameterCount(), 0);
         int modifiers = RelayParcels.class.getModifiers();
         CHECKS.holds("rule 1: public and final", modifiers == (Modifier.PUBLIC | Modifier.FINAL));
+    }
+
+    /** Each line of the face that the document tells stands in the source, in the document's order. */
+    private static void faceAsTold() throws IOException {
+        List<String> lines = Files.readAllLines(SOURCE).stream().map(String::strip).toList();
+        Matcher face = FACE_TOLD.matcher(Files.readString(DOCUMENT));
+        CHECKS.holds("the document tells the face", face.find());
+        int before = -1;
+        for (String told : face.group(1).lines().map(String::strip).toList()) {
+            if (told.equals("}")) {
+                continue;
+            }
+            int at = lines.indexOf(told.endsWith(");") ? told.replace(";", " {") : told);
+            CHECKS.holds("rule 1: as the document tells it, in its order: " + told, at > before);
+            before = at;
+        }
+    }
+
+    /** Between a heading and the next one stand the calls that the document puts under it, and no other. */
+    private static void headingsAsTold() throws IOException {
+        String source = Files.readString(SOURCE);
+        Matcher told = HEADING_TOLD.matcher(Files.readString(DOCUMENT));
+        int headings = 0;
+        while (told.find()) {
+            headings++;
+            int begin = source.indexOf("\n    // " + told.group(2) + "\n");
+            int next = source.indexOf("\n    // ----", begin + 1);
+            CHECKS.holds("the source says " + told.group(2), begin >= 0);
+            String part = source.substring(Math.max(begin, 0), next < 0 ? source.length() : next);
+            Matcher call = Pattern.compile("\n    public int (\\w+)\\(").matcher(part);
+            StringBuilder calls = new StringBuilder();
+            while (call.find()) {
+                calls.append(calls.isEmpty() ? "`" : ", `").append(call.group(1)).append('`');
+            }
+            CHECKS.holds(told.group(2) + " stands ahead of " + calls, calls.toString().equals(told.group(1)));
+        }
+        CHECKS.due("headings", headings, 6);
     }
 
     private static void nestedClasses() {
